@@ -599,8 +599,13 @@ public final class ShuffleAlgebra {
             return result;
         }
 
+        /** By which a code is multiplied when this many letters are put behind its word. */
+        private static int powerOf(int length) {
+            return length >= 0 && length < POWERS.length ? POWERS[length] : 0;
+        }
+
         static int concatenated(int left, int right) {
-            return left * POWERS[lengthOf(right)] + right;
+            return left * powerOf(lengthOf(right)) + right;
         }
 
         /** The first letters of a word, up to and with the one at index. */
@@ -622,8 +627,8 @@ public final class ShuffleAlgebra {
                 return code;
             }
             int head = headOf(code, index);
-            int tail = code - head * POWERS[behind];
-            return withoutLast(head) * POWERS[behind] + tail;
+            int tail = code - head * powerOf(behind);
+            return withoutLast(head) * powerOf(behind) + tail;
         }
 
         /** Writes the letters of a word into a row and returns their number. */
@@ -689,12 +694,21 @@ public final class ShuffleAlgebra {
         /** The length of the longest Lyndon word with which the letters in a range, at least one, begin. */
         static int prefixLength(int[] letters, int from, int to) {
             int period = 1;
-            for (int i = from + 1; i < to && letters[i] >= letters[i - period]; i++) {
-                if (letters[i] > letters[i - period]) {
+            for (int i = from + 1; i < to; i++) {
+                int letter = letterOf(letters, i);
+                int before = letterOf(letters, i - period);
+                if (letter < before) {
+                    return period;
+                }
+                if (letter > before) {
                     period = i + 1 - from;
                 }
             }
             return period;
+        }
+
+        private static int letterOf(int[] letters, int index) {
+            return index >= 0 && index < letters.length ? letters[index] : Words.NO_LETTER;
         }
 
         static boolean isWhole(int[] letters, int from, int to) {
@@ -711,7 +725,7 @@ public final class ShuffleAlgebra {
                 return Words.appended(Words.EMPTY, 0);
             }
             goOnWithPeriod(letters, length, maxLength);
-            int last = maxLength - 1;
+            int last = Math.min(maxLength, letters.length) - 1;
             while (last >= 0 && !Words.hasLetter(letters[last] + 1)) {
                 last--;
             }
@@ -730,10 +744,11 @@ public final class ShuffleAlgebra {
             int period = 1;
             int kept = length;
             for (int i = 1; i < maxLength && i < letters.length; i++) {
-                if (i >= kept || letters[i] < letters[i - period]) {
+                int before = letterOf(letters, i - period);
+                if (i >= kept || letters[i] < before) {
                     kept = i;
-                    letters[i] = letters[i - period];
-                } else if (letters[i] > letters[i - period]) {
+                    letters[i] = before;
+                } else if (letters[i] > before) {
                     period = i + 1;
                 }
             }
@@ -781,11 +796,15 @@ public final class ShuffleAlgebra {
                 return false;
             }
             for (int i = 0; i < sizeOf(factor); i++) {
-                if (letters[starts[factor] + i] != letters[starts[other] + i]) {
+                if (letterOf(factor, i) != letterOf(other, i)) {
                     return false;
                 }
             }
             return true;
+        }
+
+        private int letterOf(int factor, int index) {
+            return index >= 0 && index < sizeOf(factor) ? letters[starts[factor] + index] : Words.NO_LETTER;
         }
 
         /**
@@ -798,7 +817,7 @@ public final class ShuffleAlgebra {
         }
 
         int nextLetter(int factor) {
-            return canTake(factor) ? letters[starts[factor] + used[factor]] : 0;
+            return canTake(factor) ? letterOf(factor, used[factor]) : Words.NO_LETTER;
         }
 
         void take(int factor) {
@@ -947,17 +966,9 @@ public final class ShuffleAlgebra {
 
         /** The coefficient of a word, 0 if it has no term. */
         long numberOf(int code) {
-            int low = 0;
-            int high = size - 1;
-            while (low <= high) {
-                int middle = (low + high) / 2;
-                if (codes[middle] == code) {
-                    return numbers[middle];
-                }
-                if (codes[middle] < code) {
-                    low = middle + 1;
-                } else {
-                    high = middle - 1;
+            for (int i = 0; i < size; i++) {
+                if (codeAt(i) == code) {
+                    return numberAt(i);
                 }
             }
             return 0;

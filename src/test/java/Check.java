@@ -38,6 +38,15 @@ final class Check {
         }
     }
 
+    /** One of the 243 words of five letters, by its place in the dictionary. */
+    static String fiveLetters(int number) {
+        StringBuilder word = new StringBuilder();
+        for (int power = 81; power > 0; power /= 3) {
+            word.append((char) ('a' + number / power % 3));
+        }
+        return word.toString();
+    }
+
     static void type(ShuffleAlgebra x, String text) {
         for (char c : text.toCharArray()) {
             x.appendCharacter(c);
