@@ -288,8 +288,7 @@ public final class ShuffleAlgebra {
         if (first == null || second == null || result == null) {
             return NO_SUCH_REGISTER;
         }
-        boolean zero = first.size() == 0 || second.size() == 0;
-        if (!zero && first.longestWord() + second.longestWord() > Words.MAX_LENGTH) {
+        if (first.longestWord() + second.longestWord() > Words.MAX_LENGTH) {
             return TOO_LONG;
         }
         Products.addProduct(sum, kind, first, second);
@@ -974,6 +973,7 @@ public final class ShuffleAlgebra {
             return 0;
         }
 
+        /** How many letters the longest word has; 0 for the polynomial 0, with which no product is too long. */
         int longestWord() {
             return Words.lengthOf(codeAt(size - 1));
         }
