@@ -4,15 +4,21 @@ final class Check {
     private static final int REGISTERS = 5;
     private static int checked = 0;
     private static int wrong = 0;
+    private static String heading = "";
 
     private Check() {
+    }
+
+    /** What is printed before each wrong answer from now on. */
+    static void under(String newHeading) {
+        heading = newHeading;
     }
 
     static void due(String call, long got, long want) {
         checked++;
         if (got != want) {
             wrong++;
-            System.out.println(call + " answered " + got + ", due is " + want);
+            System.out.println(heading + call + " answered " + got + ", due is " + want);
         }
     }
 
@@ -20,7 +26,7 @@ final class Check {
         checked++;
         if (!got.equals(want)) {
             wrong++;
-            System.out.println(call + " gave " + got + ", due is " + want);
+            System.out.println(heading + call + " gave " + got + ", due is " + want);
         }
     }
 
