@@ -299,6 +299,9 @@ public final class BoundaryDefinitionsTest {
                 Check.due("factorStart of " + words[i], x.factorStart(0, factor), starts[i][factor]);
             }
             Check.due("the factor behind the last of " + words[i], x.factorStart(0, starts[i].length), NONE);
+            Check.setWord(x, 1, "abcabcac");
+            Check.due("factorCount of a longer word", x.factorCount(1), 1);
+            Check.due("factorCount of " + words[i] + " behind it", x.factorCount(0), starts[i].length);
         }
     }
 
@@ -502,7 +505,8 @@ public final class BoundaryDefinitionsTest {
     @Holds(in = "More precisely", says = "nextLyndon begins with any word, in the order of a dictionary, not by length")
     static void morePreciselyNextLyndon() {
         String[][] steps = {{"", "1", "a"}, {"ba", "8", "bbbbbbbc"}, {"ba", "2", "bc"}, {"aaaaaaaa", "2", "ab"}, {"abab", "3", "abb"},
-            {"acb", "1", "b"}, {"a", "3", "aab"}, {"aab", "3", "aac"}, {"aaaaaaaa", "8", "aaaaaaab"}, {"bcacacac", "8", "bcbcbcc"}};
+            {"acb", "1", "b"}, {"a", "3", "aab"}, {"aab", "3", "aac"}, {"aaaaaaaa", "8", "aaaaaaab"}, {"bcacacac", "8", "bcbcbcc"},
+            {"abaab", "5", "ababb"}, {"aba", "8", "abababac"}};
         for (String[] step : steps) {
             ShuffleAlgebra x = Check.withWords(step[0]);
             String name = "nextLyndon of " + step[0] + " up to " + step[1];
